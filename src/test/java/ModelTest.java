@@ -3,7 +3,7 @@ import java.util.List;
 
 /** Long runs of calls, made by a fixed rule, on the class and on PlainModel at once: each answer must be the same. */
 public final class ModelTest {
-    private static final int RUNS = 400, CALLS_OF_A_RUN = 500;
+    private static final int RUNS = 400, CALLS_OF_A_RUN = 490;
     private static final String[] PIECES = {
         "f", "s", "b", "g", ":", ";", " ", "A", "B", "C", "D", "E", "F", "<", ">", "!", "0", "7", "12", "123", "1234",
         "<1", ">1", "G", "a", "?", "\u00ff"};
@@ -14,13 +14,15 @@ public final class ModelTest {
     private HourPromised real = new HourPromised();
     private PlainModel model = new PlainModel();
     private final List<String> calls = new ArrayList<>();
-    /** Runs differ in how wide the hours lie and how much the laws forbid. */
+    /** Runs differ in how wide the hours lie, how much the laws forbid, and how long they stand. */
     private final int width;
     private final boolean lawless;
+    private final boolean steady;
 
     private ModelTest(int run) {
-        width = run % 3 == 0 ? 6 : run % 3 == 1 ? 30 : 400;
-        lawless = run % 2 == 0;
+        width = run % 3 == 0 ? 7 : run % 3 == 1 ? 30 : 400;
+        lawless = run % 4 == 0;
+        steady = run % 4 > 1;
     }
 
     public static void main(String[] args) {
@@ -68,7 +70,7 @@ public final class ModelTest {
                 callOfMoney();
             } else if (kind < 92) {
                 callOfTheHouse();
-            } else {
+            } else if (!steady || below(15) == 0) {
                 newLaw();
             }
         }
@@ -85,6 +87,22 @@ public final class ModelTest {
             plan();
         }
         house(0, 4);
+        if (steady) {
+            tellChains();
+        }
+    }
+
+    /** Laws under which one promise hangs on another and on a paper, so that much is undone at once. */
+    private void tellChains() {
+        for (int faith = 0; faith < 4; faith++) {
+            feed(faith % 2 == 0 ? "f:A;s:f B;b:s<200;g:s;" : "f:;s:fA;b:s;g:s f C;");
+            same("law(" + faith + ")", real.law(faith), model.law(faith));
+        }
+        for (int c = 0; c < model.count(0); c++) {
+            for (int paper = 0; paper < 3; paper++) {
+                same("paper(" + c + "," + paper + ",0)", real.paper(c, paper, 0), model.paper(c, paper, 0));
+            }
+        }
     }
 
     private void bearer(int height) {
@@ -118,8 +136,8 @@ public final class ModelTest {
                 break;
             case 1:
             case 2:
-                int paper = near(0, 5);
-                int by = below(5) == 0 ? -1 : hour;
+                int paper = below(2) == 0 ? 0 : near(0, 5);
+                int by = below(5) == 0 ? -1 : below(2) == 0 ? below(4) : hour;
                 same("paper(" + c + "," + paper + "," + by + ")", real.paper(c, paper, by), model.paper(c, paper, by));
                 break;
             case 3:
@@ -185,7 +203,7 @@ public final class ModelTest {
                 same("rate(" + rate + ")", real.rate(rate), model.rate(rate));
                 break;
             case 4:
-                int days = below(4) == 0 ? near(0, 400) : below(5);
+                int days = below(2) == 0 ? near(0, 400) : below(5);
                 same("days(" + days + ")", real.days(days), model.days(days));
                 break;
             case 5:
@@ -221,6 +239,9 @@ public final class ModelTest {
     private void newLaw() {
         int faith = near(0, 3);
         feed(below(4) == 0 ? jumble() : lawText());
+        if (below(20) == 0) {
+            feed(" ".repeat(95));
+        }
         same("law(" + faith + ")", real.law(faith), model.law(faith));
         same("place()", real.place(), model.place());
         for (int i = 0; i < 3; i++) {
@@ -261,7 +282,7 @@ public final class ModelTest {
             if (below(lawless ? 4 : 2) == 0) {
                 sb.append(step).append(below(3) == 0 ? " :" : ":");
                 for (int i = below(4); i > 0; i--) {
-                    sb.append(item()).append(below(3) == 0 ? " " : "");
+                    sb.append(item(step)).append(below(3) == 0 ? " " : "");
                 }
                 sb.append(';');
             }
@@ -269,8 +290,8 @@ public final class ModelTest {
         return sb.toString();
     }
 
-    private String item() {
-        switch (below(8)) {
+    private String item(char step) {
+        switch (below(lawless ? 8 : 11)) {
             case 0:
                 return below(2) == 0 ? "<" + width : "< " + below(500);
             case 1:
@@ -280,8 +301,13 @@ public final class ModelTest {
             case 3:
             case 4:
                 return "" + "ABCDEF".charAt(below(6));
-            default:
+            case 5:
                 return "" + "fsbg".charAt(below(4));
+            case 6:
+                return "A";
+            default:
+                // A chain of steps, so that one that is undone undoes others.
+                return step == 'f' ? "" : step == 's' ? "f" : "s";
         }
     }
 
