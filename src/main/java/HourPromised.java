@@ -371,7 +371,7 @@ public final class HourPromised {
             return NONE;
         }
         int ahead = 0;
-        for (int i = 0; i < c; i++) {
+        for (int i = 0; i < c && i < cases.size(); i++) {
             ahead += cases.get(i).hours[SERVICE] == hour ? 1 : 0;
         }
         for (int chapel = 0; chapel < CHAPELS; chapel++) {
