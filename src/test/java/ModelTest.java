@@ -3,7 +3,8 @@ import java.util.List;
 
 /** Long runs of calls, made by a fixed rule, on the class and on PlainModel at once: each answer must be the same. */
 public final class ModelTest {
-    private static final int RUNS = 400, CALLS_OF_A_RUN = 490;
+    /** A last law may take a hundred calls more, and an object answers 512. */
+    private static final int RUNS = 450, CALLS_OF_A_RUN = 410;
     private static final String[] PIECES = {
         "f", "s", "b", "g", ":", ";", " ", "A", "B", "C", "D", "E", "F", "<", ">", "!", "0", "7", "12", "123", "1234",
         "<1", ">1", "G", "a", "?", "\u00ff"};

@@ -109,7 +109,7 @@ final class PlainModel {
      * The fault and its byte. Blanks are left out with the places kept, the numbers being read first; what cannot
      * stand is found by asking whether each longer beginning can still become a law.
      */
-    private static int[] faultOf(String told) {
+    static int[] faultOf(String told) {
         for (int at = 0; at < told.length(); at++) {
             int least = least(told, at);
             if (least != 0) {

@@ -17,7 +17,6 @@ public final class PromisesTest {
         feed();
         law();
         lawUndoes();
-        lawFaults();
         place();
         says();
         casus();
@@ -207,65 +206,6 @@ public final class PromisesTest {
         due.is("6 paper", Due.tellLaw(x, 2, "s:A;"), 1);
         due.is("6 undone so far", x.count(3), 7);
         due.is("6 a step ahead that is later", Due.tellLaw(x, 2, "f:g;"), 1);
-    }
-
-    private static void lawFaults() {
-        fault("f", 1, 1);
-        fault("f:", 1, 2);
-        fault("f: ", 1, 3);
-        fault("f:<", 1, 3);
-        fault("f:<12", 1, 5);
-        fault("f;", 1, 1);
-        fault("ff:;", 1, 1);
-        fault(":;", 1, 0);
-        fault(";", 1, 0);
-        fault("A", 1, 0);
-        fault("F:;", 1, 0);
-        fault("f:;;", 1, 3);
-        fault("f:a;", 1, 2);
-        fault("f:G;", 1, 2);
-        fault("f:@;", 1, 2);
-        fault("f:;\t", 1, 3);
-        fault("f:1;", 1, 2);
-        fault("f:1234;", 1, 2);
-        fault("f:<1 2;", 1, 5);
-        fault("f:<12 3456;", 1, 6);
-        fault("f:< A;", 1, 4);
-        fault("f:<-1;", 1, 3);
-        fault("f:<>1;", 1, 3);
-        fault("f:A:;", 1, 3);
-        fault("f:s:;", 1, 3);
-        fault("f:<1234;", 2, 3);
-        fault("f:> 0000", 2, 4);
-        fault("f:>123456789;", 2, 3);
-        fault("f:;f", 3, 3);
-        fault("f:;s:; f:;", 3, 7);
-        fault("f:AA;", 4, 3);
-        fault("f:A B A;", 4, 6);
-        fault("f:<1<2;", 4, 4);
-        fault("f:<1<2345;", 4, 4);
-        fault("f:>1<1>1;", 4, 6);
-        fault("f:!!;", 4, 3);
-        fault("f:ss;", 4, 3);
-        fault("f:f;", 5, 2);
-        fault("f:Ff;", 5, 3);
-        fault("s:f;g:gA;", 5, 6);
-        fault("f:AA?", 4, 3);
-        fault("f:?AA", 1, 2);
-        fault("f:;s:;b:;g:;", 0, NONE);
-        fault("g:;b:;s:;f:;", 0, NONE);
-        fault("f:A;s:A;", 0, NONE);
-        fault("  f  :  <  1  ;  ", 0, NONE);
-        fault("f:<1>1A!s;", 0, NONE);
-        fault("f:<1A;", 0, NONE);
-        fault("", 0, NONE);
-    }
-
-    /** A text's fault (0: none), and its byte, told twice: by the answer of law() and by place(). */
-    private static void fault(String text, int number, int at) {
-        HourPromised x = new HourPromised();
-        due.is("6 law \"" + text + "\"", Due.tellLaw(x, 0, text), number == 0 ? 0 : -10 - number);
-        due.is("7 place of \"" + text + "\"", x.place(), at);
     }
 
     private static void place() {
