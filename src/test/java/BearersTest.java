@@ -254,5 +254,15 @@ public final class BearersTest {
         due.is("15 the only one", x.promised(1, GRAVE, 2), 1);
         x.casus(0, 0, 0, 70);
         due.is("12 none needed where all are taken", x.promise(2, GRAVE, 9), 1);
+        x = houseOf(alike(12));
+        for (int needed : new int[] {6, 0, 6, 0}) {
+            int c = x.casus(0, 0, needed, 0);
+            due.is("12 all twelve, and none", x.promise(c, GRAVE, 9), 1);
+        }
+        int[] sets = {63, 0, 4032, 0};
+        for (int c = 0; c < sets.length; c++) {
+            due.is("15 all twelve, and none", x.promised(c, GRAVE, 2), sets[c]);
+        }
+        due.is("16 all twelve", x.taken(9, BEARERS_TAKEN), 12);
     }
 }
