@@ -23,6 +23,8 @@ public final class FaceTest {
     public static void main(String[] args) throws ReflectiveOperationException {
         constants();
         members();
+        fields();
+        theClass();
         oddArguments();
         due.end("FaceTest");
     }
@@ -44,6 +46,7 @@ public final class FaceTest {
                 names.add(m.getName());
                 due.is(told(m) + " answers an int", m.getReturnType() == int.class ? 1 : 0, 1);
                 due.is(told(m) + " is public and no more", m.getModifiers(), Modifier.PUBLIC);
+                due.is(told(m) + " declares what it throws", m.getExceptionTypes().length, 0);
             }
         }
         TreeSet<String> wanted = new TreeSet<>(Arrays.asList(FACE));
@@ -52,17 +55,36 @@ public final class FaceTest {
             boolean hides = Modifier.isPrivate(m.getModifiers()) && names.contains(m.getName());
             due.is(m.getName() + " is private with a public name", hides ? 1 : 0, 0);
         }
-        int fields = 0;
+    }
+
+    private static void fields() {
+        TreeSet<String> shown = new TreeSet<>();
         for (Field f : HourPromised.class.getDeclaredFields()) {
-            fields += Modifier.isPrivate(f.getModifiers()) ? 0 : 1;
+            if (Modifier.isPrivate(f.getModifiers())) {
+                continue;
+            }
+            shown.add(f.getName());
+            due.is(f + " is an int", f.getType() == int.class ? 1 : 0, 1);
+            due.is(f + " is a constant", f.getModifiers(), Modifier.PUBLIC | Modifier.STATIC | Modifier.FINAL);
         }
-        due.is("fields that are not private", fields, 5);
+        TreeSet<String> wanted = new TreeSet<>(Arrays.asList("NONE", "UNKNOWN", "OUTSIDE", "NOT", "FULL"));
+        due.is("the constants " + shown + " of " + wanted, shown.equals(wanted) ? 1 : 0, 1);
+    }
+
+    private static void theClass() {
         Constructor<?>[] constructors = HourPromised.class.getDeclaredConstructors();
         due.is("constructors", constructors.length, 1);
-        due.is("its parameters", constructors[0].getParameterCount(), 0);
+        due.is("the constructor's parameters", constructors[0].getParameterCount(), 0);
+        due.is("the constructor is public", constructors[0].getModifiers(), Modifier.PUBLIC);
         due.is("public and final", HourPromised.class.getModifiers(), Modifier.PUBLIC | Modifier.FINAL);
+        due.is("in no package", HourPromised.class.getPackageName().length(), 0);
+        // What it took over from another class or interface would be a public member, too.
+        due.is("it extends nothing", HourPromised.class.getSuperclass() == Object.class ? 1 : 0, 1);
+        due.is("it implements nothing", HourPromised.class.getInterfaces().length, 0);
         for (Class<?> inside : HourPromised.class.getDeclaredClasses()) {
-            due.is(inside + " is static", Modifier.isStatic(inside.getModifiers()) ? 1 : 0, 1);
+            int how = inside.getModifiers();
+            due.is(inside + " is static", Modifier.isStatic(how) ? 1 : 0, 1);
+            due.is(inside + " is seen from outside", Modifier.isPublic(how) || Modifier.isProtected(how) ? 1 : 0, 0);
         }
     }
 
